@@ -1,0 +1,62 @@
+/** Compares answers with those that are due, prints the wrong ones, and ends the test. */
+final class Check {
+    private static int right = 0;
+    private static int wrong = 0;
+
+    interface Call {
+        long answer();
+    }
+
+    private Check() {
+    }
+
+    static void is(String what, long got, long due) {
+        note(got == due, what + " answered " + got + ", due is " + due);
+    }
+
+    static void isText(String what, String got, String due) {
+        note(got.equals(due), what + " answered " + got + ", due is " + due);
+    }
+
+    static void isTrue(String what, boolean holds) {
+        note(holds, what);
+    }
+
+    static void refuses(String what, Class<? extends RuntimeException> due, Call call) {
+        String got;
+        try {
+            got = "the answer " + call.answer();
+        } catch (RuntimeException e) {
+            got = e.getClass().getName();
+        }
+        isText(what, got, due.getName());
+    }
+
+    static void noIndex(String what, Call call) {
+        refuses(what, IndexOutOfBoundsException.class, call);
+    }
+
+    static void noArgument(String what, Call call) {
+        refuses(what, IllegalArgumentException.class, call);
+    }
+
+    static void noState(String what, Call call) {
+        refuses(what, IllegalStateException.class, call);
+    }
+
+    private static void note(boolean holds, String told) {
+        if (holds) {
+            right++;
+        } else {
+            wrong++;
+            System.out.println("wrong: " + told);
+        }
+    }
+
+    static void end(String test) {
+        System.out.println(test + ": " + right + " answers as due, " + wrong + " not");
+        if (wrong > 0 || right == 0) {
+            System.exit(1);
+        }
+    }
+}

@@ -1,0 +1,138 @@
+import java.io.IOException;
+import java.lang.reflect.Constructor;
+import java.lang.reflect.Field;
+import java.lang.reflect.Method;
+import java.lang.reflect.Modifier;
+import java.nio.file.Files;
+import java.nio.file.Path;
+import java.util.ArrayList;
+import java.util.Arrays;
+import java.util.Collections;
+import java.util.List;
+
+/** The face of the document, and what LANGUAGE.md rules out and a scan can see. */
+public final class FaceTest {
+    private static final String[] FACE = {
+        "int append(int) IllegalArgumentException IllegalStateException",
+        "int bound(int,int) IndexOutOfBoundsException IllegalArgumentException",
+        "int choice(int,int,int) IndexOutOfBoundsException IllegalArgumentException",
+        "int clearBuffer()",
+        "int count(int) IllegalArgumentException",
+        "int dearest()",
+        "long digest()",
+        "int distance(int,int,int) IndexOutOfBoundsException IllegalArgumentException",
+        "int exit(int,int) IndexOutOfBoundsException IllegalStateException",
+        "int exitOf(int,int) IndexOutOfBoundsException IllegalArgumentException",
+        "int firstError()",
+        "int goBack(int) IllegalArgumentException IllegalStateException",
+        "double hotShare()",
+        "int idle(int,int) IndexOutOfBoundsException IllegalArgumentException",
+        "int ifRoad(int,int,int) IndexOutOfBoundsException IllegalArgumentException",
+        "int keep(int) IllegalArgumentException",
+        "int neighbourOf(int,int) IndexOutOfBoundsException IllegalArgumentException",
+        "int offer(int,int,int) IndexOutOfBoundsException IllegalArgumentException",
+        "int road(int,int,int) IndexOutOfBoundsException IllegalArgumentException",
+        "int roadOf(int,int) IndexOutOfBoundsException",
+        "int run() IllegalArgumentException",
+        "int send(int,int) IndexOutOfBoundsException IllegalStateException",
+        "int set(int,int) IndexOutOfBoundsException IllegalArgumentException",
+        "int settle()",
+        "int turn(int) IndexOutOfBoundsException",
+        "int undo() IllegalStateException",
+        "int why(int,int,int) IndexOutOfBoundsException",
+    };
+
+    private static final String[] RULED_OUT = {
+        "import ", "package ", "catch", "finally", "try ", "->", "::", "synchronized", "assert", "instanceof",
+        "Exact(", "Double.", "System.out", "System.nano", "System.current", "Random", "Thread", "static {"};
+
+    public static void main(String[] args) throws IOException {
+        methods();
+        membersAreHidden();
+        noPrivateMethodBearsAPublicName();
+        inside();
+        source();
+        Check.end("FaceTest");
+    }
+
+    private static void methods() {
+        List<String> told = new ArrayList<>();
+        for (Method m : LoafExits.class.getDeclaredMethods()) {
+            if (!Modifier.isPrivate(m.getModifiers())) {
+                Check.isTrue("public: " + m, Modifier.isPublic(m.getModifiers()) && !Modifier.isStatic(m.getModifiers()));
+                told.add(tell(m));
+            }
+        }
+        List<String> due = new ArrayList<>(Arrays.asList(FACE));
+        Collections.sort(due);
+        Collections.sort(told);
+        Check.isText("the face", told.toString(), due.toString());
+    }
+
+    private static String tell(Method m) {
+        StringBuilder told = new StringBuilder();
+        told.append(m.getReturnType().getSimpleName()).append(' ').append(m.getName()).append('(');
+        for (int k = 0; k < m.getParameterCount(); k++) {
+            told.append(k == 0 ? "" : ",").append(m.getParameterTypes()[k].getSimpleName());
+        }
+        told.append(')');
+        for (Class<?> e : m.getExceptionTypes()) {
+            told.append(' ').append(e.getSimpleName());
+        }
+        return told.toString();
+    }
+
+    private static void membersAreHidden() {
+        Check.isTrue("final", Modifier.isFinal(LoafExits.class.getModifiers()));
+        Constructor<?>[] made = LoafExits.class.getDeclaredConstructors();
+        Check.is("one constructor", made.length, 1);
+        Check.isTrue("public without parameters", Modifier.isPublic(made[0].getModifiers()) && made[0].getParameterCount() == 0);
+        for (Field f : LoafExits.class.getDeclaredFields()) {
+            boolean shown = f.getName().equals("NONE");
+            Check.isTrue("field " + f, shown ? Modifier.isPublic(f.getModifiers()) : Modifier.isPrivate(f.getModifiers()));
+            Check.isTrue("static is final " + f, !Modifier.isStatic(f.getModifiers()) || Modifier.isFinal(f.getModifiers()));
+        }
+    }
+
+    private static void noPrivateMethodBearsAPublicName() {
+        List<String> names = new ArrayList<>();
+        for (String told : FACE) {
+            names.add(told.substring(told.indexOf(' ') + 1, told.indexOf('(')));
+        }
+        List<Method> others = new ArrayList<>();
+        for (Method m : LoafExits.class.getDeclaredMethods()) {
+            if (Modifier.isPrivate(m.getModifiers())) {
+                others.add(m);
+            }
+        }
+        for (Class<?> c : LoafExits.class.getDeclaredClasses()) {
+            others.addAll(Arrays.asList(c.getDeclaredMethods()));
+        }
+        for (Method m : others) {
+            Check.isTrue("a name of the face: " + m, !names.contains(m.getName()));
+            Check.isTrue("seven parameters at most: " + m, m.getParameterCount() <= 7);
+        }
+    }
+
+    private static void inside() {
+        Class<?>[] inside = LoafExits.class.getDeclaredClasses();
+        Check.isTrue("twelve classes at most", inside.length <= 12);
+        for (Class<?> c : inside) {
+            Check.isTrue("static: " + c, Modifier.isStatic(c.getModifiers()));
+            Check.isTrue("not shown: " + c, !Modifier.isPublic(c.getModifiers()) && !Modifier.isProtected(c.getModifiers()));
+            int fields = 0;
+            for (Field f : c.getDeclaredFields()) {
+                fields += Modifier.isStatic(f.getModifiers()) ? 0 : 1;
+                Check.isTrue("static is final " + f, !Modifier.isStatic(f.getModifiers()) || Modifier.isFinal(f.getModifiers()));
+            }
+            Check.isTrue("twenty fields at most: " + c, fields <= 20);
+        }
+    }
+
+    private static void source() throws IOException {
+        String source = Files.readString(Path.of("src/main/java/LoafExits.java"));
+        for (String word : RULED_OUT) {
+            Check.isTrue("the source has " + word, !source.contains(word));
+        }
+    }
+}
