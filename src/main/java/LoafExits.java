@@ -37,7 +37,6 @@ public final class LoafExits {
     private static final long HASH_AT_FIRST = 3271L;
     private static final long EXPONENT_OF_ONE = 1023L;
     private static final int FRACTION_BITS = 52;
-    private static final double FRACTION_UNITS = 4503599627370496.0;
     private static final int MOST_DOUBLINGS = 64;
 
     private final Land now = new Land();
@@ -574,7 +573,8 @@ public final class LoafExits {
             part = part * 2.0;
             exponent--;
         }
-        return (exponent << FRACTION_BITS) + (long) ((part - 1.0) * FRACTION_UNITS);
+        long units = 1L << FRACTION_BITS;
+        return exponent * units + (long) ((part - 1.0) * (double) units);
     }
 
     private static void copyRow(int[] from, int[] to) {
@@ -970,7 +970,8 @@ public final class LoafExits {
                     weigh(firsts[number], seconds[number]);
                 }
             }
-            exit = bestOfRank(rank(land, town, house));
+            int loavesOut = land.setting(BY_TURNS) == 1 ? land.loavesOut(town, house) : 0;
+            exit = best > 0 ? bestOfRank(loavesOut % best) : NONE;
             cost = land.roads.way(town, land.exits.town(exit));
         }
 
@@ -988,10 +989,10 @@ public final class LoafExits {
             if (land.roads.way(town, land.exits.town(number)) == NONE) {
                 return 3;
             }
-            if (!isGood(number)) {
+            if (number < 0 || number >= EXITS || firsts[number] != leastFirst) {
                 return 4;
             }
-            return isBest(number) ? 6 : 5;
+            return seconds[number] == leastSecond ? 6 : 5;
         }
 
         private void begin() {
@@ -1008,19 +1009,13 @@ public final class LoafExits {
                 leastSecond = second;
                 best = 0;
             }
-            if (first == leastFirst && second == leastSecond) {
-                best++;
-            }
-        }
-
-        private int rank(Land land, int town, int house) {
-            return land.setting(BY_TURNS) == 1 && best > 0 ? land.loavesOut(town, house) % best : 0;
+            best += isBest(first, second) ? 1 : 0;
         }
 
         private int bestOfRank(int rank) {
             int left = rank;
             for (int number = 0; number < EXITS; number++) {
-                if (isBest(number)) {
+                if (isBest(firsts[number], seconds[number])) {
                     if (left == 0) {
                         return number;
                     }
@@ -1030,13 +1025,8 @@ public final class LoafExits {
             return NONE;
         }
 
-        /** FAR stands for an exit that could not be taken, also where none could be. */
-        private boolean isGood(int number) {
-            return number >= 0 && number < EXITS && firsts[number] < FAR && firsts[number] == leastFirst;
-        }
-
-        private boolean isBest(int number) {
-            return isGood(number) && seconds[number] == leastSecond;
+        private boolean isBest(int first, int second) {
+            return first == leastFirst && second == leastSecond;
         }
     }
 

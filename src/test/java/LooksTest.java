@@ -49,6 +49,8 @@ public final class LooksTest {
         both(x, "the road itself", 1, 6, 34);
         x.road(1, 6, 99);
         both(x, "a dear road is not taken", 1, 6, 35);
+        x.road(0, 7, 1);
+        both(x, "over the cheapest road", 1, 6, 21);
         x.road(3, 4, 0);
         x.road(0, 7, 0);
         both(x, "over the dear road", 0, 5, 119);
@@ -181,6 +183,8 @@ public final class LooksTest {
         choices(x, "not on a cheapest way", 7, 0, 0, 30, 1, 1, 0, 4);
         x.road(7, 4, 31);
         choices(x, "over 6", 7, 0, 0, 30, 1, 1, 0, 6);
+        x.road(5, 7, 1);
+        choices(x, "over the cheapest road", 7, 0, 0, 11, 1, 1, 0, 5);
         choices(x, "a higher one", 2, 0, 0, 20, 1, 1, 0, 3);
     }
 

@@ -86,6 +86,7 @@ public final class SnapshotTest {
         x.set(0, 0);
         x.set(1, 0);
         x.send(2, 2);
+        x.send(2, 1);
         x.settle();
         x.append('s');
         Check.is("15: loaves", x.goBack(0), 4);

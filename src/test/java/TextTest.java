@@ -80,10 +80,10 @@ public final class TextTest {
     private static void faultyDays() {
         String[] ahead = {
             "", "s", "s", "s0", "s0>", "s0>0", "s0>0*", "s0>0*", "s0>0*2", "r", "r0", "r0", "r7", "r01", "r01=",
-            "r01=", "r01=0", "r01=0", "r01=1", "r01=10", "x", "x", "x0", "x0;", "s0>0;", "s0>3", "s0>3*9", "r01=99"};
+            "r01=", "r01=0", "r01=0", "r01=1", "r01=1", "r01=10", "x", "x", "x0", "x0;", "s0>0;", "s0>3", "s0>3*9", "r01=99"};
         String[] fault = {
             ";", "8", "/", "0", "4", "1", "1", ":", "0", "8", "0", "8", "7", "0", ":",
-            "/", "0", "5", "*", "0", "8", "x", "0", ";", "0", ">", "*", "9"};
+            "/", "0", "5", "*", ":", "0", "8", "x", "0", ";", "0", ">", "*", "9"};
         for (int k = 0; k < ahead.length; k++) {
             for (String behind : new String[] {"", ";", "s0>0"}) {
                 String day = ahead[k] + fault[k] + behind;
@@ -140,6 +140,9 @@ public final class TextTest {
         Check.is("13: distances by them", x.distance(1, 7, 0), 15);
         Check.is("13: closed", x.exitOf(0, 2), 0);
         Check.is("13: closed and opened", x.exitOf(1, 2), 1);
+        write(x, "r56=90;r56=10");
+        x.run();
+        Check.is("13: a last digit 0", x.roadOf(5, 6), 10);
         write(x, "r07=0;s2>3;x0;s0>0");
         Check.is("13: one after the other", x.run(), 4);
         Check.is("13: by exit 1, over towns 3 to 7", x.exitOf(1, 4), 138);

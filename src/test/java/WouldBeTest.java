@@ -12,6 +12,7 @@ public final class WouldBeTest {
         digestOfNew();
         digestOfUsed();
         digestOfParts();
+        digestOfSmallThings();
         Check.end("WouldBeTest");
     }
 
@@ -32,6 +33,10 @@ public final class WouldBeTest {
         Check.is("24: one in place of none", x.ifRoad(3, 4, 99), 4);
         Check.is("24: another one and one in place of none", x.ifRoad(0, 5, 1), 6);
         Check.is("24: the same cost", x.ifRoad(0, 1, 10), 0);
+        x.road(0, 1, 0);
+        Check.is("24: three towns and two houses", x.ifRoad(0, 1, 5), 6);
+        x.turn(0);
+        Check.is("24: town 0 alone", x.ifRoad(0, 7, 5), 1);
     }
 
     private static void ifRoadByTurns() {
@@ -219,5 +224,21 @@ public final class WouldBeTest {
                 Check.is("28: digest of a share", x.digest(), m.digest());
             }
         }
+    }
+
+    /** A land in which ifRoad(0, 7, 5) is not ifRoad(0, 7, 6), nor why of town 0 that of town 1. */
+    private static void digestOfSmallThings() {
+        LoafExits x = new LoafExits();
+        Model m = new Model();
+        Check.is("28: exit", x.exit(2, 0), m.exit(2, 0));
+        Check.is("28: exit", x.exit(7, 0), m.exit(7, 0));
+        Check.is("28: exit", x.exit(1, 0), m.exit(1, 0));
+        Check.is("28: offer", x.offer(0, 0, 1), m.offer(0, 0, 1));
+        Check.is("28: road", x.road(0, 2, 6), m.road(0, 2, 6));
+        Check.is("28: cost 5", x.ifRoad(0, 7, 5), 1);
+        Check.is("28: cost 6", x.ifRoad(0, 7, 6), 0);
+        Check.is("28: town 0", x.why(0, 0, 2), 5);
+        Check.is("28: town 1", x.why(1, 0, 2), 0);
+        Check.is("28: digest", x.digest(), m.digest());
     }
 }
