@@ -2,12 +2,18 @@
 final class Check {
     private static int right = 0;
     private static int wrong = 0;
+    private static String place = "";
 
     interface Call {
         long answer();
     }
 
     private Check() {
+    }
+
+    /** What is told ahead of each wrong answer from here on. */
+    static void at(String told) {
+        place = told + ": ";
     }
 
     static void is(String what, long got, long due) {
@@ -23,13 +29,13 @@ final class Check {
     }
 
     static void refuses(String what, Class<? extends RuntimeException> due, Call call) {
-        String got;
-        try {
-            got = "the answer " + call.answer();
-        } catch (RuntimeException e) {
-            got = e.getClass().getName();
-        }
-        isText(what, got, due.getName());
+        isText(what, told(call), due.getName());
+    }
+
+    /** Any answer will do, but no exception. */
+    static void takes(String what, Call call) {
+        String got = told(call);
+        note(got.startsWith("the answer"), what + " answered " + got + ", due is an answer");
     }
 
     static void noIndex(String what, Call call) {
@@ -44,12 +50,20 @@ final class Check {
         refuses(what, IllegalStateException.class, call);
     }
 
+    private static String told(Call call) {
+        try {
+            return "the answer " + call.answer();
+        } catch (RuntimeException e) {
+            return e.getClass().getName();
+        }
+    }
+
     private static void note(boolean holds, String told) {
         if (holds) {
             right++;
         } else {
             wrong++;
-            System.out.println("wrong: " + told);
+            System.out.println("wrong: " + place + told);
         }
     }
 
