@@ -35,6 +35,15 @@ abstract class Edges {
         return NAMED.getOrDefault(section, new ArrayList<>());
     }
 
+    /** An exception that no check expects is a wrong answer to the sentence at hand; the other tests go on. */
+    static void test(Runnable test) {
+        try {
+            test.run();
+        } catch (RuntimeException e) {
+            Check.isTrue("ended by " + e, false);
+        }
+    }
+
     static LoafExits write(LoafExits x, String text) {
         for (int k = 0; k < text.length(); k++) {
             x.append(text.charAt(k));

@@ -10,6 +10,7 @@ import java.util.List;
  */
 public final class EdgesTest {
     private static final Path DOCUMENT = Path.of("../shared/DOC.md");
+    private static final int PROMISES = 28;
 
     public static void main(String[] args) throws IOException {
         TermsEdges.all();
@@ -20,13 +21,21 @@ public final class EdgesTest {
         SnapshotEdges.all();
         LookEdges.all();
         WouldBeEdges.all();
-        Check.at("the document");
-        String document = Files.readString(DOCUMENT);
-        compare(Edges.TERMS, termsOf(document));
-        for (int number = 1; number <= 28; number++) {
-            compare("Promise " + number, promiseOf(document, number));
+        if (Files.exists(DOCUMENT)) {
+            compareAll(Files.readString(DOCUMENT));
+        } else {
+            System.out.println("EdgesTest: there is no " + DOCUMENT + " to compare the sentences with");
         }
         Check.end("EdgesTest");
+    }
+
+    private static void compareAll(String document) {
+        Check.at("the document");
+        compare(Edges.TERMS, termsOf(document));
+        for (int number = 1; number <= PROMISES; number++) {
+            compare("Promise " + number, promiseOf(document, number));
+        }
+        Check.isTrue("it has a promise more", promiseOf(document, PROMISES + 1).isEmpty());
     }
 
     private static String between(String text, String first, String last) {

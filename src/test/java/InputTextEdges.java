@@ -6,12 +6,12 @@ final class InputTextEdges extends Edges {
     }
 
     static void all() {
-        length();
-        severalOrders();
-        sendOrders();
-        roadOrders();
-        exitOrders();
-        leftToRight();
+        test(InputTextEdges::length);
+        test(InputTextEdges::severalOrders);
+        test(InputTextEdges::sendOrders);
+        test(InputTextEdges::roadOrders);
+        test(InputTextEdges::exitOrders);
+        test(InputTextEdges::leftToRight);
     }
 
     private static String printed() {

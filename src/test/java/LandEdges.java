@@ -4,16 +4,16 @@ final class LandEdges extends Edges {
     }
 
     static void all() {
-        newObject();
-        road();
-        roadThrows();
-        exit();
-        exitThrows();
-        turn();
-        offer();
-        offerThrows();
-        bound();
-        set();
+        test(LandEdges::newObject);
+        test(LandEdges::road);
+        test(LandEdges::roadThrows);
+        test(LandEdges::exit);
+        test(LandEdges::exitThrows);
+        test(LandEdges::turn);
+        test(LandEdges::offer);
+        test(LandEdges::offerThrows);
+        test(LandEdges::bound);
+        test(LandEdges::set);
     }
 
     private static void newObject() {

@@ -4,12 +4,12 @@ final class LoafEdges extends Edges {
     }
 
     static void all() {
-        send();
-        sendReturns();
-        sendThrows();
-        mostLoaves();
-        settle();
-        settleReturns();
+        test(LoafEdges::send);
+        test(LoafEdges::sendReturns);
+        test(LoafEdges::sendThrows);
+        test(LoafEdges::mostLoaves);
+        test(LoafEdges::settle);
+        test(LoafEdges::settleReturns);
     }
 
     private static void send() {

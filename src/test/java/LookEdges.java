@@ -4,23 +4,23 @@ final class LookEdges extends Edges {
     }
 
     static void all() {
-        roadOf();
-        distance();
-        distanceThrows();
-        exitOf();
-        exitOfThrows();
-        neighbourOf();
-        neighbourOfThrows();
-        choice();
-        choiceCounts();
-        choiceNext();
-        choiceThrows();
-        why();
-        whyInOrder();
-        whyThrows();
-        countOfLand();
-        countOfLoaves();
-        countThrows();
+        test(LookEdges::roadOf);
+        test(LookEdges::distance);
+        test(LookEdges::distanceThrows);
+        test(LookEdges::exitOf);
+        test(LookEdges::exitOfThrows);
+        test(LookEdges::neighbourOf);
+        test(LookEdges::neighbourOfThrows);
+        test(LookEdges::choice);
+        test(LookEdges::choiceCounts);
+        test(LookEdges::choiceNext);
+        test(LookEdges::choiceThrows);
+        test(LookEdges::why);
+        test(LookEdges::whyInOrder);
+        test(LookEdges::whyThrows);
+        test(LookEdges::countOfLand);
+        test(LookEdges::countOfLoaves);
+        test(LookEdges::countThrows);
     }
 
     private static void roadOf() {

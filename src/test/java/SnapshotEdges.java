@@ -4,10 +4,10 @@ final class SnapshotEdges extends Edges {
     }
 
     static void all() {
-        keep();
-        goBack();
-        goBackThrows();
-        undo();
+        test(SnapshotEdges::keep);
+        test(SnapshotEdges::goBack);
+        test(SnapshotEdges::goBackThrows);
+        test(SnapshotEdges::undo);
     }
 
     private static void keep() {

@@ -4,22 +4,22 @@ final class TermsEdges extends Edges {
     }
 
     static void all() {
-        towns();
-        distances();
-        exits();
-        offers();
-        couldBeTaken();
-        bestOnes();
-        turns();
-        ways();
-        complaints();
-        settings();
-        slots();
-        savedStates();
-        exceptions();
-        constants();
-        looks();
-        lastCall();
+        test(TermsEdges::towns);
+        test(TermsEdges::distances);
+        test(TermsEdges::exits);
+        test(TermsEdges::offers);
+        test(TermsEdges::couldBeTaken);
+        test(TermsEdges::bestOnes);
+        test(TermsEdges::turns);
+        test(TermsEdges::ways);
+        test(TermsEdges::complaints);
+        test(TermsEdges::settings);
+        test(TermsEdges::slots);
+        test(TermsEdges::savedStates);
+        test(TermsEdges::exceptions);
+        test(TermsEdges::constants);
+        test(TermsEdges::looks);
+        test(TermsEdges::lastCall);
     }
 
     private static void towns() {

@@ -6,16 +6,16 @@ final class TextEdges extends Edges {
     }
 
     static void all() {
-        append();
-        appendThrows();
-        clearBuffer();
-        firstError();
-        run();
-        runStops();
-        runClears();
-        runIsUndoable();
-        runReturns();
-        runThrows();
+        test(TextEdges::append);
+        test(TextEdges::appendThrows);
+        test(TextEdges::clearBuffer);
+        test(TextEdges::firstError);
+        test(TextEdges::run);
+        test(TextEdges::runStops);
+        test(TextEdges::runClears);
+        test(TextEdges::runIsUndoable);
+        test(TextEdges::runReturns);
+        test(TextEdges::runThrows);
     }
 
     private static void append() {

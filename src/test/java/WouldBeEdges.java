@@ -4,19 +4,19 @@ final class WouldBeEdges extends Edges {
     }
 
     static void all() {
-        ifRoad();
-        ifRoadThrows();
-        dearest();
-        dearestOfSeveral();
-        idle();
-        idleThrows();
-        hotShare();
-        digestOfNew();
-        digestOfNumbers();
-        digestOfLand();
-        digestOfChoices();
-        digestOfWouldBe();
-        digestOfRest();
+        test(WouldBeEdges::ifRoad);
+        test(WouldBeEdges::ifRoadThrows);
+        test(WouldBeEdges::dearest);
+        test(WouldBeEdges::dearestOfSeveral);
+        test(WouldBeEdges::idle);
+        test(WouldBeEdges::idleThrows);
+        test(WouldBeEdges::hotShare);
+        test(WouldBeEdges::digestOfNew);
+        test(WouldBeEdges::digestOfNumbers);
+        test(WouldBeEdges::digestOfLand);
+        test(WouldBeEdges::digestOfChoices);
+        test(WouldBeEdges::digestOfWouldBe);
+        test(WouldBeEdges::digestOfRest);
     }
 
     private static void ifRoad() {
