@@ -9,6 +9,8 @@ import java.util.ArrayList;
 import java.util.Arrays;
 import java.util.Collections;
 import java.util.List;
+import java.util.regex.Matcher;
+import java.util.regex.Pattern;
 
 /** The face of the document, and what LANGUAGE.md rules out and a scan can see. */
 public final class FaceTest {
@@ -46,12 +48,22 @@ public final class FaceTest {
         "import ", "package ", "catch", "finally", "try ", "->", "::", "synchronized", "assert", "instanceof",
         "Exact(", "Double.", "System.out", "System.nano", "System.current", "Random", "Thread", "static {"};
 
+    private static final List<String> LIBRARY = Arrays.asList("Math.min", "Math.max", "System.arraycopy");
+    private static final Pattern NAME_OF_LIBRARY = Pattern.compile("\\b[A-Z]\\w*\\.[a-z]\\w*(?=\\()");
+    private static final Pattern MADE = Pattern.compile("\\bnew ([A-Za-z]+)");
+    private static final Pattern METHOD = Pattern.compile("( +)[\\w\\[\\] ]+\\(.*\\).* \\{");
+    private static final int MOST_LINES = 60;
+
     public static void main(String[] args) throws IOException {
         methods();
         membersAreHidden();
         noPrivateMethodBearsAPublicName();
         inside();
-        source();
+        String source = Files.readString(Path.of("src/main/java/LoafExits.java"));
+        ruledOut(source);
+        library(source);
+        made(source);
+        lengths(source);
         Check.end("FaceTest");
     }
 
@@ -135,10 +147,49 @@ public final class FaceTest {
         }
     }
 
-    private static void source() throws IOException {
-        String source = Files.readString(Path.of("src/main/java/LoafExits.java"));
+    private static void ruledOut(String source) {
         for (String word : RULED_OUT) {
             Check.isTrue("the source has " + word, !source.contains(word));
         }
+    }
+
+    private static void library(String source) {
+        Matcher name = NAME_OF_LIBRARY.matcher(source);
+        while (name.find()) {
+            Check.isTrue("the source has " + name.group(), LIBRARY.contains(name.group()));
+        }
+    }
+
+    /** Exceptions, rows of numbers, and objects of the classes inside; nothing else is made. */
+    private static void made(String source) {
+        List<String> may = new ArrayList<>(Arrays.asList("int", "boolean"));
+        for (Class<?> e : new Class<?>[] {IndexOutOfBoundsException.class, IllegalArgumentException.class, IllegalStateException.class}) {
+            may.add(e.getSimpleName());
+        }
+        for (Class<?> c : LoafExits.class.getDeclaredClasses()) {
+            may.add(c.getSimpleName());
+        }
+        Matcher made = MADE.matcher(source);
+        while (made.find()) {
+            Check.isTrue("the source makes a " + made.group(1), may.contains(made.group(1)));
+        }
+    }
+
+    /** A method ends with the next brace that stands as far in as its first line. */
+    private static void lengths(String source) {
+        String[] lines = source.split("\n");
+        int methods = 0;
+        for (int first = 0; first < lines.length; first++) {
+            Matcher method = METHOD.matcher(lines[first]);
+            if (method.matches() && (method.group(1).length() == 4 || method.group(1).length() == 8)) {
+                int last = first;
+                while (last + 1 < lines.length && !lines[last].equals(method.group(1) + "}")) {
+                    last++;
+                }
+                methods++;
+                Check.isTrue("lines: " + lines[first].trim(), last - first < MOST_LINES);
+            }
+        }
+        Check.isTrue("methods are found", methods > 100);
     }
 }
